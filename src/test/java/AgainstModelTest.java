@@ -2,7 +2,7 @@ import java.util.Random;
 
 /** Many runs of calls by fixed seeds: the class must answer as the plain model does. */
 final class AgainstModelTest {
-    private static final int RUNS = 250;
+    private static final int RUNS = 100;
     private static final int CALLS = 200;
     private static final int[] ODD_NUMBERS = {
         -1, 0, 1, 7, 21, 47, 48, 49, 120, 1001, Integer.MAX_VALUE, Integer.MIN_VALUE

@@ -1,0 +1,23 @@
+/** moved: the move of a piece, 0 at first and for none. */
+final class Promise09Test {
+    private static final Checks CHECKS = new Checks();
+
+    public static void main(String[] args) {
+        MaskEdges m = CHECKS.plain(10, 10, 20, 20);
+        CHECKS.due("before a cut", m.moved(0), 0);
+        m.cut(5);
+        CHECKS.dueMoves("behind a cut", m, 0, 0, 0, 0, 0, 0, 0, 0);
+        m.shift(1, 2);
+        CHECKS.dueMoves("shifted", m, 2, 2, 0, 0, 2, 2, 0, 0);
+        m.run(1, 1, 1, 6);
+        CHECKS.dueMoves("behind a round", m, 1, 1, 0, 0, 1, 1, 0, 0);
+        m.shift(2, -3);
+        CHECKS.dueMoves("below 0", m, 1, 1, -3, -3, 1, 1, -3, -3);
+        m.shift(0, 1);
+        int[] none = {-1, 8, 119, 120, Integer.MAX_VALUE, Integer.MIN_VALUE};
+        for (int number : none) {
+            CHECKS.due("moved(" + number + ")", m.moved(number), 0);
+        }
+        CHECKS.finish();
+    }
+}

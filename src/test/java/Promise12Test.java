@@ -1,0 +1,75 @@
+/** prints: whether one cell of a bar does, at a dose. */
+final class Promise12Test {
+    private static final Checks CHECKS = new Checks();
+
+    public static void main(String[] args) {
+        doses();
+        oneCellIsEnough();
+        none();
+        CHECKS.finish();
+    }
+
+    private static MaskEdges withBars(int weight, int width) {
+        MaskEdges m = new MaskEdges();
+        CHECKS.rectangle(m, 15, 15, 25, 25);
+        m.kernel(weight, width);
+        m.cut(48);
+        CHECKS.due("helper(8, 1)", m.helper(8, 1), 4);
+        return m;
+    }
+
+    private static void doses() {
+        MaskEdges m = withBars(1, 0);
+        for (int bar = 0; bar < 4; bar++) {
+            CHECKS.due("prints(" + bar + ", 100)", m.prints(bar, 100), true);
+            CHECKS.due("prints(" + bar + ", 99)", m.prints(bar, 99), false);
+            CHECKS.due("prints(" + bar + ", 1000)", m.prints(bar, 1000), true);
+            CHECKS.due("prints(" + bar + ", 1)", m.prints(bar, 1), false);
+        }
+        m.run(1, 10, 1, 1);
+        CHECKS.due("threshold 10, dose 1000", m.prints(0, 1000), true);
+        CHECKS.due("threshold 10, dose 999", m.prints(0, 999), false);
+        MaskEdges dark = withBars(-1, 0);
+        CHECKS.due("an image below 0", dark.prints(0, 1000), false);
+    }
+
+    /** Along a bar the image is 2, 3 .. 3, 2. */
+    private static void oneCellIsEnough() {
+        MaskEdges m = withBars(1, 1);
+        m.run(1, 3, 1, 1);
+        CHECKS.due("its end does not print", m.is(16, 6, 2), false);
+        CHECKS.due("all but the ends print", m.prints(0, 100), true);
+        m.run(1, 4, 1, 1);
+        CHECKS.due("none prints", m.prints(0, 100), false);
+        lastCellOnly();
+    }
+
+    private static void lastCellOnly() {
+        MaskEdges m = new MaskEdges();
+        CHECKS.rectangle(m, 15, 15, 25, 25);
+        CHECKS.rectangle(m, 24, 6, 27, 7);
+        m.kernel(1, 1);
+        m.cut(48);
+        m.helper(8, 1);
+        m.run(1, 4, 1, 1);
+        m.cut(48);
+        CHECKS.due("no print at the beginning", m.prints(0, 100), false);
+        m.run(1, 3, 1, 1);
+        m.cut(48);
+        CHECKS.due("its last cell has two and one more", m.is(23, 6, 2), true);
+        CHECKS.due("so it prints", m.prints(0, 100), true);
+    }
+
+    private static void none() {
+        MaskEdges m = withBars(20, 0);
+        int[] bars = {-1, 4, 24, Integer.MAX_VALUE, Integer.MIN_VALUE};
+        for (int bar : bars) {
+            CHECKS.due("prints(" + bar + ", 100)", m.prints(bar, 100), false);
+        }
+        int[] doses = {0, -1, 1001, Integer.MAX_VALUE, Integer.MIN_VALUE};
+        for (int dose : doses) {
+            CHECKS.due("prints(0, " + dose + ")", m.prints(0, dose), false);
+        }
+        CHECKS.due("prints(0, 5)", m.prints(0, 5), true);
+    }
+}
