@@ -395,7 +395,7 @@ public final class MaskEdges {
                 return false;
             }
             if (corners >= LEAST_CORNERS && x == xs[0] && y == ys[0]) {
-                // The last side of a row of corners is the closing one.
+                // Side corners - 1 is the one from the last corner back to the first.
                 closed = isAlongX(corners - 1) != isAlongX(0);
                 return closed;
             }

@@ -44,12 +44,25 @@ final class Promise05Test {
         CHECKS.due("a last piece to shift", m.shift(0, 1), 120);
         CHECKS.due("moved(119)", m.moved(119), 1);
         CHECKS.due("moved(120)", m.moved(120), 0);
+        CHECKS.due("a round of 120 pieces", m.run(20, 1, 1, 6), 1);
+        CHECKS.due("moved(59)", m.moved(59), 0);
+        CHECKS.due("bars with 120 pieces", m.helper(1, 1), 2);
 
         MaskEdges larger = CHECKS.plain(0, 0, 30, 31);
         CHECKS.due("cut(48)", larger.cut(48), 4);
         larger.shift(0, 2);
         CHECKS.due("122 pieces", larger.cut(1), -4);
         CHECKS.dueMoves("behind a refused cut", larger, 2, 2, 2, 2, 0);
+        CHECKS.due("119 pieces", stepAndSquare(34), 119);
+        CHECKS.due("121 pieces", stepAndSquare(36), -4);
+    }
+
+    /** An L whose sides along x are of 6, 3 and 3, which are 7 pieces of 2 at most. */
+    private static int stepAndSquare(int height) {
+        MaskEdges m = new MaskEdges();
+        CHECKS.closed(m, 0, 0, 6, 0, 6, 20, 3, 20, 3, 44, 0, 44);
+        CHECKS.rectangle(m, 10, 0, 44, height);
+        return m.cut(2);
     }
 
     /** A side of 10 in 3 pieces has them of 3, 3 and 4, from where it begins. */

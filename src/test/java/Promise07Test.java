@@ -7,6 +7,7 @@ final class Promise07Test {
         tooLittlePrints();
         eightAtMost();
         gapsEndIt();
+        alongTheMiddleAlone();
         gridsEdge();
         flatOnes();
         none();
@@ -63,6 +64,21 @@ final class Promise07Test {
         CHECKS.dueErrors("three rows out", hole, -3, 0, -3, 0);
     }
 
+    /** One row or column of cells leaves each side at its middle. */
+    private static void alongTheMiddleAlone() {
+        MaskEdges flatBars = CHECKS.plain(15, 15, 25, 25);
+        CHECKS.rectangle(flatBars, 25, 19, 29, 20);
+        CHECKS.rectangle(flatBars, 10, 19, 15, 20);
+        flatBars.cut(48);
+        CHECKS.dueErrors("rows", flatBars, 0, 4, 0, 5);
+
+        MaskEdges upright = CHECKS.plain(15, 15, 25, 25);
+        CHECKS.rectangle(upright, 19, 25, 20, 31);
+        CHECKS.rectangle(upright, 19, 8, 20, 15);
+        upright.cut(48);
+        CHECKS.dueErrors("columns", upright, 7, 0, 6, 0);
+    }
+
     private static void gridsEdge() {
         MaskEdges m = CHECKS.plain(10, 5, 20, 20);
         CHECKS.rectangle(m, 10, 0, 20, 5);
@@ -82,6 +98,7 @@ final class Promise07Test {
         MaskEdges m = new MaskEdges();
         CHECKS.closed(m, 4, 4, 20, 4, 20, 20, 12, 20, 12, 4, 28, 4, 28, 30, 4, 30);
         m.kernel(1, 1);
+        CHECKS.due("cut(4): flat ones have other numbers then", m.cut(4), 38);
         CHECKS.due("cut(8)", m.cut(8), 20);
         CHECKS.dueErrors("flat", m, 1, 0, 1, 1, 1, 1, 1, 0, 1);
     }

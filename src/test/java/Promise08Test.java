@@ -50,7 +50,9 @@ final class Promise08Test {
     }
 
     private static void stepsAgainstTheError() {
-        int[][] moveStepKept = {{3, 1, 3}, {3, 2, 2}, {3, 3, 1}, {3, 4, 1}, {-3, 1, 3}, {-3, 2, 2}, {-4, 4, 1}, {6, 4, 2}};
+        int[][] moveStepKept = {
+            {3, 1, 3}, {3, 2, 2}, {3, 3, 1}, {3, 4, 1}, {-3, 1, 3}, {-3, 2, 2}, {-4, 4, 1}, {6, 4, 2}
+        };
         for (int[] each : moveStepKept) {
             MaskEdges m = movedBy(each[0]);
             String when = "move " + each[0] + ", step " + each[1];
@@ -124,6 +126,10 @@ final class Promise08Test {
         CHECKS.dueRectangle("as before", m, 1, new int[] {10, 10, 20, 11});
         CHECKS.due("worst(0)", m.worst(0), 1);
         CHECKS.due("worst(1)", m.worst(1), -1);
+        m.shift(2, -1);
+        CHECKS.due("with moves before", m.run(20, 1, 1, 6), 0);
+        CHECKS.dueMoves("with moves before", m, 0, -1, 0, -1);
+        CHECKS.dueRectangle("with moves before", m, 1, new int[] {11, 10, 19, 11});
     }
 
     private static void thresholdStays() {

@@ -24,6 +24,7 @@ final class Promise10Test {
         CHECKS.due("run(1, 1, 1, 6)", m.run(1, 1, 1, 6), 1);
         dueWorsts("the sign does not count, and the last run does", m, 4, 3);
         greatestOfDifferentOnes();
+        onePieceAlone();
         twentyRounds();
         CHECKS.finish();
     }
@@ -44,6 +45,19 @@ final class Promise10Test {
         m.shift(2, -3);
         CHECKS.due("run(20, 1, 1, 6)", m.run(20, 1, 1, 6), 3);
         dueWorsts("2 and -3", m, 3, 2, 1, 0);
+    }
+
+    /** All sides but one are at the grid's edge, where nothing prints beyond. */
+    private static void onePieceAlone() {
+        int[][] rectangles = {{0, 15, 48, 48}, {0, 0, 33, 48}, {0, 0, 48, 33}, {15, 0, 48, 48}};
+        for (int side = 0; side < 4; side++) {
+            int[] r = rectangles[side];
+            MaskEdges m = CHECKS.plain(r[0], r[1], r[2], r[3]);
+            m.cut(48);
+            m.shift(0, 3);
+            m.run(1, 1, 1, 6);
+            dueWorsts("side " + side, m, 3, 2);
+        }
     }
 
     /** Rounds that put a row in and out again, without an end of their own. */

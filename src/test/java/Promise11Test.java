@@ -17,7 +17,9 @@ final class Promise11Test {
     }
 
     private static void refusals() {
-        int[][] wrong = {{0, 1}, {9, 1}, {1, 0}, {1, 5}, {-1, -1}, {Integer.MAX_VALUE, 1}, {1, Integer.MIN_VALUE}};
+        int[][] wrong = {
+            {0, 1}, {9, 1}, {1, 0}, {1, 5}, {-1, -1}, {Integer.MAX_VALUE, 1}, {1, Integer.MIN_VALUE}
+        };
         MaskEdges none = CHECKS.plain(20, 20, 30, 30);
         MaskEdges m = CHECKS.plain(20, 20, 30, 30);
         m.cut(5);
@@ -79,6 +81,13 @@ final class Promise11Test {
         CHECKS.due("up to both edges", wide.helper(2, 2), 2);
         CHECKS.due("row 0", wide.is(1, 0, 1) && wide.is(46, 47, 1), true);
         CHECKS.due("row 0, ends", wide.is(0, 0, 1) || wide.is(47, 47, 1), false);
+        CHECKS.due("only in the first and last row", wide.helper(3, 1), 0);
+
+        MaskEdges high = CHECKS.plain(4, 0, 44, 48);
+        high.cut(48);
+        CHECKS.due("only one column is beyond", high.helper(3, 2), 0);
+        CHECKS.due("up to both edges", high.helper(3, 1), 2);
+        CHECKS.due("column 0", high.is(0, 1, 1) && high.is(47, 46, 1), true);
     }
 
     private static void notInTheTarget() {

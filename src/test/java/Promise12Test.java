@@ -5,6 +5,7 @@ final class Promise12Test {
     public static void main(String[] args) {
         doses();
         oneCellIsEnough();
+        cellsBesideDoNotCount();
         none();
         CHECKS.finish();
     }
@@ -29,6 +30,8 @@ final class Promise12Test {
         m.run(1, 10, 1, 1);
         CHECKS.due("threshold 10, dose 1000", m.prints(0, 1000), true);
         CHECKS.due("threshold 10, dose 999", m.prints(0, 999), false);
+        MaskEdges bright = withBars(20, 2);
+        CHECKS.due("image 100 at dose 1", bright.prints(0, 1), true);
         MaskEdges dark = withBars(-1, 0);
         CHECKS.due("an image below 0", dark.prints(0, 1000), false);
     }
@@ -40,7 +43,9 @@ final class Promise12Test {
         CHECKS.due("its end does not print", m.is(16, 6, 2), false);
         CHECKS.due("all but the ends print", m.prints(0, 100), true);
         m.run(1, 4, 1, 1);
-        CHECKS.due("none prints", m.prints(0, 100), false);
+        for (int bar = 0; bar < 4; bar++) {
+            CHECKS.due("none prints, though the target does", m.prints(bar, 100), false);
+        }
         lastCellOnly();
     }
 
@@ -58,6 +63,26 @@ final class Promise12Test {
         m.cut(48);
         CHECKS.due("its last cell has two and one more", m.is(23, 6, 2), true);
         CHECKS.due("so it prints", m.prints(0, 100), true);
+    }
+
+    /** The small one's bars touch the large one, which prints up to its edge, but they do not. */
+    private static void cellsBesideDoNotCount() {
+        int[][] larges = {{10, 28, 30, 40}, {28, 10, 40, 30}, {10, 0, 30, 12}, {0, 10, 12, 30}};
+        int[] bars = {2, 1, 0, 3};
+        for (int i = 0; i < larges.length; i++) {
+            MaskEdges m = new MaskEdges();
+            CHECKS.rectangle(m, 15, 15, 25, 25);
+            CHECKS.rectangle(m, larges[i][0], larges[i][1], larges[i][2], larges[i][3]);
+            m.kernel(1, 1);
+            m.cut(48);
+            m.helper(2, 1);
+            m.run(1, 9, 1, 1);
+            m.cut(48);
+            int x = Math.max(larges[i][0], Math.min(20, larges[i][2] - 1));
+            int y = Math.max(larges[i][1], Math.min(20, larges[i][3] - 1));
+            CHECKS.due("the cell beside bar " + bars[i] + " prints", m.is(x, y, 2), true);
+            CHECKS.due("the bar " + bars[i] + " does not", m.prints(bars[i], 100), false);
+        }
     }
 
     private static void none() {

@@ -26,6 +26,15 @@ final class Promise14Test {
         CHECKS.due("4 cells to the other end", near.alike(1, 3), true);
         CHECKS.due("a piece with itself", near.alike(0, 0), true);
 
+        MaskEdges odd = CHECKS.plain(10, 10, 38, 38);
+        odd.cut(7);
+        for (int side = 0; side < 4; side++) {
+            int piece = 4 * side;
+            CHECKS.due("3 cells to one end, side " + side, odd.alike(piece, piece + 1), false);
+            CHECKS.due("in the middle, side " + side, odd.alike(piece + 1, piece + 2), true);
+            CHECKS.due("3 cells to the other end, side " + side, odd.alike(piece + 2, piece + 3), false);
+        }
+
         MaskEdges deep = CHECKS.plain(5, 10, 20, 15);
         CHECKS.rectangle(deep, 25, 10, 40, 14);
         CHECKS.rectangle(deep, 5, 30, 20, 36);

@@ -13,7 +13,8 @@ final class Promise15Test {
 
     private static void refusals() {
         int[][] wrong = {
-            {-1, 0}, {4, 0}, {0, 7}, {0, -7}, {Integer.MAX_VALUE, 1}, {0, Integer.MAX_VALUE}, {3, Integer.MIN_VALUE}
+            {-1, 0}, {4, 0}, {0, 7}, {0, -7},
+            {Integer.MAX_VALUE, 1}, {0, Integer.MAX_VALUE}, {3, Integer.MIN_VALUE}
         };
         MaskEdges none = CHECKS.plain(10, 10, 20, 20);
         MaskEdges m = CHECKS.plain(10, 10, 20, 20);

@@ -6,6 +6,7 @@ final class Promise16Test {
         whats();
         none();
         beyondTheGrid();
+        inwardFromTheGridsEdge();
         CHECKS.due("the second one's piece is later", piecesInTurn(true), true);
         CHECKS.due("the first one's piece is later", piecesInTurn(false), false);
         CHECKS.finish();
@@ -56,6 +57,13 @@ final class Promise16Test {
         CHECKS.due("up to the grid's edge", m.is(0, 20, 1) && m.is(47, 20, 1), true);
         CHECKS.due("up to the grid's edge", m.is(20, 0, 1) && m.is(20, 47, 1), true);
         CHECKS.due("the corners are beside none", m.is(1, 1, 1) || m.is(46, 46, 1), false);
+    }
+
+    private static void inwardFromTheGridsEdge() {
+        MaskEdges m = CHECKS.plain(0, 0, 48, 48);
+        m.cut(48);
+        m.shift(0, -2);
+        CHECKS.dueRectangle("two rows out all round", m, 1, new int[] {2, 2, 46, 46});
     }
 
     /**
