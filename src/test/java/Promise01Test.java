@@ -10,9 +10,9 @@ final class Promise01Test {
     }
 
     private static void nothingIsThere() {
-        MaskEdges m = new MaskEdges();
+        Trial m = new Trial();
         for (int what = 0; what <= 2; what++) {
-            CHECKS.dueRectangle("new", m, what, new int[] {0, 0, 0, 0});
+            CHECKS.dueCells("new", m, what, Checks.box(0, 0, 0, 0));
         }
         CHECKS.due("image(5, 5)", m.image(5, 5), 0);
         CHECKS.due("error(0)", m.error(0), 0);
@@ -31,7 +31,7 @@ final class Promise01Test {
     }
 
     private static void objectsShareNothing() {
-        MaskEdges used = CHECKS.plain(10, 10, 20, 20);
+        Trial used = CHECKS.plain(10, 10, 20, 20);
         used.cut(5);
         used.helper(1, 1);
         used.shift(0, 3);
@@ -40,7 +40,7 @@ final class Promise01Test {
     }
 
     private static void thresholdIsOne() {
-        MaskEdges m = CHECKS.plain(10, 10, 20, 20);
-        CHECKS.dueRectangle("threshold 1", m, 2, new int[] {10, 10, 20, 20});
+        Trial m = CHECKS.plain(10, 10, 20, 20);
+        CHECKS.dueCells("threshold 1", m, 2, Checks.box(10, 10, 20, 20));
     }
 }

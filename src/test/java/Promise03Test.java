@@ -15,7 +15,7 @@ final class Promise03Test {
     }
 
     private static void wrongCorners() {
-        MaskEdges m = new MaskEdges();
+        Trial m = new Trial();
         m.polygon();
         CHECKS.due("no such polygon", m.corner(1, 5, 5), false);
         CHECKS.due("no such polygon", m.corner(-1, 5, 5), false);
@@ -39,7 +39,7 @@ final class Promise03Test {
     }
 
     private static void closing() {
-        MaskEdges m = new MaskEdges();
+        Trial m = new Trial();
         CHECKS.rectangle(m, 10, 10, 20, 20);
         CHECKS.due("the first corner of a closed one", m.corner(0, 10, 10), false);
         CHECKS.due("a corner of a closed one", m.corner(0, 10, 5), false);
@@ -47,7 +47,7 @@ final class Promise03Test {
     }
 
     private static void closingAlongTheFirstSide() {
-        MaskEdges m = new MaskEdges();
+        Trial m = new Trial();
         int p = m.polygon();
         CHECKS.due("corners", CHECKS.corners(m, p, 30, 30, 36, 30, 36, 36, 33, 36, 33, 30), true);
         CHECKS.due("closing along the first side", m.corner(p, 30, 30), false);
@@ -60,7 +60,7 @@ final class Promise03Test {
 
     /** A stair of 15 sides that comes back to the line of the first corner. */
     private static void sixteenCorners() {
-        MaskEdges m = new MaskEdges();
+        Trial m = new Trial();
         int p = m.polygon();
         boolean all = true;
         for (int i = 0; i < 7; i++) {
@@ -76,13 +76,13 @@ final class Promise03Test {
     }
 
     private static void firstSideAlongY() {
-        MaskEdges m = new MaskEdges();
+        Trial m = new Trial();
         CHECKS.closed(m, 10, 10, 10, 30, 20, 30, 20, 10);
-        CHECKS.dueRectangle("first along y", m, 0, new int[] {10, 10, 20, 30});
+        CHECKS.dueCells("first along y", m, 0, Checks.box(10, 10, 20, 30));
     }
 
     private static void noCornersWithPieces() {
-        MaskEdges m = CHECKS.plain(10, 10, 20, 20);
+        Trial m = CHECKS.plain(10, 10, 20, 20);
         int open = m.polygon();
         CHECKS.due("corner before the cut", m.corner(open, 1, 1), true);
         m.cut(48);
@@ -91,7 +91,7 @@ final class Promise03Test {
 
     /** A polygon that crosses itself: what is gone round twice is not in it. */
     private static void cellsByOddSides() {
-        MaskEdges m = new MaskEdges();
+        Trial m = new Trial();
         CHECKS.closed(m, 4, 4, 20, 4, 20, 20, 12, 20, 12, 4, 28, 4, 28, 30, 4, 30);
         CHECKS.due("one side to the left", m.is(11, 4, 0), true);
         CHECKS.due("two sides to the left", m.is(12, 4, 0), false);
@@ -104,10 +104,10 @@ final class Promise03Test {
     }
 
     private static void targetIsAllPolygons() {
-        MaskEdges m = new MaskEdges();
+        Trial m = new Trial();
         CHECKS.rectangle(m, 10, 10, 20, 20);
         CHECKS.rectangle(m, 15, 10, 30, 20);
-        CHECKS.dueRectangle("two that overlap", m, 0, new int[] {10, 10, 30, 20});
-        CHECKS.dueRectangle("mask before a cut", m, 1, new int[] {10, 10, 30, 20});
+        CHECKS.dueCells("two that overlap", m, 0, Checks.box(10, 10, 30, 20));
+        CHECKS.dueCells("mask before a cut", m, 1, Checks.box(10, 10, 30, 20));
     }
 }

@@ -3,7 +3,7 @@ final class Promise04Test {
     private static final Checks CHECKS = new Checks();
 
     public static void main(String[] args) {
-        MaskEdges m = new MaskEdges();
+        Trial m = new Trial();
         refusals(m);
         CHECKS.due("kernel(-20, 0)", m.kernel(-20, 0), 0);
         CHECKS.due("kernel(20, 6)", m.kernel(20, 6), 1);
@@ -21,7 +21,7 @@ final class Promise04Test {
         CHECKS.finish();
     }
 
-    private static void refusals(MaskEdges m) {
+    private static void refusals(Trial m) {
         CHECKS.due("kernel(21, 0)", m.kernel(21, 0), -2);
         CHECKS.due("kernel(-21, 0)", m.kernel(-21, 0), -2);
         CHECKS.due("kernel(1, -1)", m.kernel(1, -1), -2);

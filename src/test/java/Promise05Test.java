@@ -14,7 +14,7 @@ final class Promise05Test {
     }
 
     private static void refusals() {
-        MaskEdges m = new MaskEdges();
+        Trial m = new Trial();
         int[] lengths = {0, -1, 49, Integer.MAX_VALUE, Integer.MIN_VALUE};
         for (int length : lengths) {
             CHECKS.due("cut(" + length + ") of nothing", m.cut(length), -2);
@@ -30,7 +30,7 @@ final class Promise05Test {
 
     private static void counts() {
         int[][] lengthAndPieces = {{48, 4}, {30, 4}, {29, 6}, {10, 8}, {9, 12}, {7, 14}, {1, 80}, {2, 40}};
-        MaskEdges m = CHECKS.plain(5, 5, 15, 35);
+        Trial m = CHECKS.plain(5, 5, 15, 35);
         int open = m.polygon();
         CHECKS.corners(m, open, 20, 10, 30, 10);
         for (int[] each : lengthAndPieces) {
@@ -39,7 +39,7 @@ final class Promise05Test {
     }
 
     private static void mostPieces() {
-        MaskEdges m = CHECKS.plain(0, 0, 30, 30);
+        Trial m = CHECKS.plain(0, 0, 30, 30);
         CHECKS.due("120 pieces", m.cut(1), 120);
         CHECKS.due("a last piece to shift", m.shift(0, 1), 120);
         CHECKS.due("moved(119)", m.moved(119), 1);
@@ -48,7 +48,7 @@ final class Promise05Test {
         CHECKS.due("moved(59)", m.moved(59), 0);
         CHECKS.due("bars with 120 pieces", m.helper(1, 1), 2);
 
-        MaskEdges larger = CHECKS.plain(0, 0, 30, 31);
+        Trial larger = CHECKS.plain(0, 0, 30, 31);
         CHECKS.due("cut(48)", larger.cut(48), 4);
         larger.shift(0, 2);
         CHECKS.due("122 pieces", larger.cut(1), -4);
@@ -59,7 +59,7 @@ final class Promise05Test {
 
     /** An L whose sides along x are of 6, 3 and 3, which are 7 pieces of 2 at most. */
     private static int stepAndSquare(int height) {
-        MaskEdges m = new MaskEdges();
+        Trial m = new Trial();
         CHECKS.closed(m, 0, 0, 6, 0, 6, 20, 3, 20, 3, 44, 0, 44);
         CHECKS.rectangle(m, 10, 0, 44, height);
         return m.cut(2);
@@ -67,7 +67,7 @@ final class Promise05Test {
 
     /** A side of 10 in 3 pieces has them of 3, 3 and 4, from where it begins. */
     private static void cutFromTheBeginning() {
-        MaskEdges m = CHECKS.plain(10, 10, 20, 20);
+        Trial m = CHECKS.plain(10, 10, 20, 20);
         CHECKS.due("cut(4)", m.cut(4), 12);
         CHECKS.due("shift(3, 1)", m.shift(3, 1), 8);
         for (int i = 0; i < 10; i++) {
@@ -85,7 +85,7 @@ final class Promise05Test {
         int[][] widthAndMiddle = {{1, 0}, {2, 0}, {3, 1}, {4, 1}, {5, 2}, {6, 2}};
         for (int[] each : widthAndMiddle) {
             for (int column = 0; column < each[0]; column++) {
-                MaskEdges m = CHECKS.plain(10, 10, 10 + each[0], 20);
+                Trial m = CHECKS.plain(10, 10, 10 + each[0], 20);
                 CHECKS.rectangle(m, 10 + column, 5, 11 + column, 10);
                 m.cut(48);
                 CHECKS.due("middle of " + each[0] + ", column " + column,
@@ -95,7 +95,7 @@ final class Promise05Test {
     }
 
     private static void polygonsByNumber() {
-        MaskEdges m = new MaskEdges();
+        Trial m = new Trial();
         m.kernel(1, 0);
         m.polygon();
         m.polygon();
@@ -107,7 +107,7 @@ final class Promise05Test {
     }
 
     private static void movesGoBarsStay() {
-        MaskEdges m = CHECKS.plain(10, 10, 20, 20);
+        Trial m = CHECKS.plain(10, 10, 20, 20);
         m.cut(5);
         m.shift(0, 1);
         CHECKS.due("helper(3, 1)", m.helper(3, 1), 4);

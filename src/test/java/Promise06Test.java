@@ -11,7 +11,7 @@ final class Promise06Test {
     }
 
     private static void oneKernel() {
-        MaskEdges m = new MaskEdges();
+        Trial m = new Trial();
         CHECKS.rectangle(m, 10, 10, 20, 20);
         CHECKS.due("no kernel", m.image(15, 15), 0);
         m.kernel(3, 2);
@@ -25,7 +25,7 @@ final class Promise06Test {
     }
 
     private static void kernelsAddUp() {
-        MaskEdges m = CHECKS.plain(10, 10, 20, 20);
+        Trial m = CHECKS.plain(10, 10, 20, 20);
         m.kernel(-2, 1);
         m.kernel(20, 6);
         CHECKS.due("inside", m.image(10, 15), 1 - 2 * 6 + 20 * 7 * 10);
@@ -33,7 +33,7 @@ final class Promise06Test {
     }
 
     private static void gridsEdge() {
-        MaskEdges m = new MaskEdges();
+        Trial m = new Trial();
         CHECKS.rectangle(m, 0, 0, 48, 48);
         m.kernel(1, 6);
         CHECKS.due("image(0, 0)", m.image(0, 0), 49);
@@ -48,7 +48,7 @@ final class Promise06Test {
     }
 
     private static void maskNotTarget() {
-        MaskEdges m = CHECKS.plain(10, 10, 20, 20);
+        Trial m = CHECKS.plain(10, 10, 20, 20);
         m.cut(48);
         CHECKS.due("target alone", m.image(15, 8), 0);
         m.shift(0, 2);

@@ -16,7 +16,7 @@ final class Promise07Test {
 
     private static void tooMuchPrints() {
         for (int width = 0; width <= 6; width++) {
-            MaskEdges m = new MaskEdges();
+            Trial m = new Trial();
             CHECKS.rectangle(m, 15, 15, 30, 30);
             m.kernel(1, width);
             m.cut(48);
@@ -28,7 +28,7 @@ final class Promise07Test {
     private static void tooLittlePrints() {
         int[][] thresholdAndError = {{5, 2}, {6, 1}, {10, 1}, {11, 0}, {15, 0}, {16, -1}, {20, -1}, {25, -2}};
         for (int[] each : thresholdAndError) {
-            MaskEdges m = new MaskEdges();
+            Trial m = new Trial();
             CHECKS.rectangle(m, 10, 10, 20, 20);
             m.kernel(1, 2);
             m.cut(48);
@@ -40,7 +40,7 @@ final class Promise07Test {
     }
 
     private static void eightAtMost() {
-        MaskEdges m = CHECKS.plain(10, 20, 20, 40);
+        Trial m = CHECKS.plain(10, 20, 20, 40);
         CHECKS.rectangle(m, 10, 10, 20, 20);
         m.cut(48);
         CHECKS.dueErrors("ten cells behind", m, 8, 0, 0, 0, 0, 0, 8, 0);
@@ -50,13 +50,13 @@ final class Promise07Test {
     }
 
     private static void gapsEndIt() {
-        MaskEdges m = CHECKS.plain(10, 20, 20, 40);
+        Trial m = CHECKS.plain(10, 20, 20, 40);
         CHECKS.rectangle(m, 10, 17, 20, 20);
         CHECKS.rectangle(m, 10, 10, 20, 16);
         m.cut(48);
         CHECKS.due("a gap behind three", m.error(0), 3);
 
-        MaskEdges hole = CHECKS.plain(10, 10, 20, 30);
+        Trial hole = CHECKS.plain(10, 10, 20, 30);
         hole.kernel(-1, 1);
         hole.kernel(1, 1);
         hole.cut(48);
@@ -66,13 +66,13 @@ final class Promise07Test {
 
     /** One row or column of cells leaves each side at its middle. */
     private static void alongTheMiddleAlone() {
-        MaskEdges flatBars = CHECKS.plain(15, 15, 25, 25);
+        Trial flatBars = CHECKS.plain(15, 15, 25, 25);
         CHECKS.rectangle(flatBars, 25, 19, 29, 20);
         CHECKS.rectangle(flatBars, 10, 19, 15, 20);
         flatBars.cut(48);
         CHECKS.dueErrors("rows", flatBars, 0, 4, 0, 5);
 
-        MaskEdges upright = CHECKS.plain(15, 15, 25, 25);
+        Trial upright = CHECKS.plain(15, 15, 25, 25);
         CHECKS.rectangle(upright, 19, 25, 20, 31);
         CHECKS.rectangle(upright, 19, 8, 20, 15);
         upright.cut(48);
@@ -80,7 +80,7 @@ final class Promise07Test {
     }
 
     private static void gridsEdge() {
-        MaskEdges m = CHECKS.plain(10, 5, 20, 20);
+        Trial m = CHECKS.plain(10, 5, 20, 20);
         CHECKS.rectangle(m, 10, 0, 20, 5);
         m.cut(48);
         CHECKS.dueErrors("five cells to the edge", m, 5, 0, 0, 0, 0, 0, 8, 0);
@@ -88,14 +88,14 @@ final class Promise07Test {
         m.cut(48);
         CHECKS.due("inward to the edge", m.error(6), -5);
 
-        MaskEdges all = CHECKS.plain(0, 0, 48, 48);
+        Trial all = CHECKS.plain(0, 0, 48, 48);
         all.cut(48);
         CHECKS.dueErrors("the whole grid", all, 0, 0, 0, 0);
     }
 
     /** Piece 1 and 7 have the polygon on no hand; piece 0 and 8 of the same sides have it on one. */
     private static void flatOnes() {
-        MaskEdges m = new MaskEdges();
+        Trial m = new Trial();
         CHECKS.closed(m, 4, 4, 20, 4, 20, 20, 12, 20, 12, 4, 28, 4, 28, 30, 4, 30);
         m.kernel(1, 1);
         CHECKS.due("cut(4): flat ones have other numbers then", m.cut(4), 38);
@@ -104,7 +104,7 @@ final class Promise07Test {
     }
 
     private static void none() {
-        MaskEdges m = new MaskEdges();
+        Trial m = new Trial();
         CHECKS.rectangle(m, 10, 10, 20, 20);
         m.kernel(1, 2);
         m.cut(48);

@@ -16,8 +16,8 @@ final class Promise08Test {
     }
 
     /** The mask prints as it is, so a MOVE of v is an error of v. */
-    private static MaskEdges movedBy(int v) {
-        MaskEdges m = CHECKS.plain(15, 15, 30, 30);
+    private static Trial movedBy(int v) {
+        Trial m = CHECKS.plain(15, 15, 30, 30);
         m.cut(48);
         m.shift(0, v);
         return m;
@@ -28,8 +28,8 @@ final class Promise08Test {
             {0, 1, 1, 1}, {21, 1, 1, 1}, {1, 0, 1, 1}, {1, 100_001, 1, 1}, {1, 1, 0, 1}, {1, 1, 5, 1},
             {1, 1, 1, 0}, {1, 1, 1, 7}, {-1, -1, -1, -1}, {Integer.MAX_VALUE, 1, 1, 1}
         };
-        MaskEdges none = new MaskEdges();
-        MaskEdges m = movedBy(3);
+        Trial none = new Trial();
+        Trial m = movedBy(3);
         for (int[] w : wrong) {
             String call = "run(" + w[0] + ", " + w[1] + ", " + w[2] + ", " + w[3] + ")";
             CHECKS.due(call + " without pieces", none.run(w[0], w[1], w[2], w[3]), -2);
@@ -40,7 +40,7 @@ final class Promise08Test {
         CHECKS.due("no worst error of a refused run", m.worst(0), -1);
         CHECKS.due("the greatest of all", m.run(20, 100_000, 4, 6), 1);
 
-        MaskEdges first = CHECKS.plain(15, 15, 30, 30);
+        Trial first = CHECKS.plain(15, 15, 30, 30);
         CHECKS.rectangle(first, 0, 0, 5, 5);
         CHECKS.due("closed, but not cut", first.run(20, 1, 1, 1), -3);
         first.cut(48);
@@ -54,17 +54,17 @@ final class Promise08Test {
             {3, 1, 3}, {3, 2, 2}, {3, 3, 1}, {3, 4, 1}, {-3, 1, 3}, {-3, 2, 2}, {-4, 4, 1}, {6, 4, 2}
         };
         for (int[] each : moveStepKept) {
-            MaskEdges m = movedBy(each[0]);
+            Trial m = movedBy(each[0]);
             String when = "move " + each[0] + ", step " + each[1];
             CHECKS.due(when, m.run(20, 1, each[1], 6), each[2]);
             CHECKS.dueMoves(when, m, 0, 0, 0, 0);
             CHECKS.dueErrors(when, m, 0, 0, 0, 0);
-            CHECKS.dueRectangle(when, m, 1, new int[] {15, 15, 30, 30});
+            CHECKS.dueCells(when, m, 1, Checks.box(15, 15, 30, 30));
         }
     }
 
     private static void asManyRoundsAsTold() {
-        MaskEdges m = movedBy(5);
+        Trial m = movedBy(5);
         CHECKS.due("run(2, 1, 1, 6)", m.run(2, 1, 1, 6), 2);
         CHECKS.dueMoves("two rounds", m, 3, 3, 3, 3);
         CHECKS.due("the mask is renewed", m.is(20, 11, 1), false);
@@ -74,15 +74,15 @@ final class Promise08Test {
     }
 
     private static void limits() {
-        MaskEdges m = movedBy(6);
+        Trial m = movedBy(6);
         CHECKS.due("beyond the limit before", m.run(1, 1, 1, 2), 1);
         CHECKS.dueMoves("beyond the limit before", m, 2, 2, 2, 2);
 
-        MaskEdges below = movedBy(-6);
+        Trial below = movedBy(-6);
         CHECKS.due("beyond it below 0", below.run(1, 1, 1, 2), 1);
         CHECKS.dueMoves("beyond it below 0", below, -2, -2, -2, -2);
 
-        MaskEdges dark = new MaskEdges();
+        Trial dark = new Trial();
         CHECKS.rectangle(dark, 15, 15, 30, 30);
         dark.cut(48);
         CHECKS.due("up to the limit", dark.run(20, 1, 2, 3), 2);
@@ -93,7 +93,7 @@ final class Promise08Test {
 
     /** The top and left pieces move beyond the grid, where nothing prints: no error, but a limit. */
     private static void limitAlsoWithoutError() {
-        MaskEdges m = CHECKS.plain(0, 0, 15, 15);
+        Trial m = CHECKS.plain(0, 0, 15, 15);
         m.cut(48);
         m.shift(0, 5);
         CHECKS.dueErrors("at the grid's edge", m, 0, 5, 5, 0);
@@ -102,11 +102,11 @@ final class Promise08Test {
     }
 
     private static void endsWithoutChange() {
-        MaskEdges m = movedBy(0);
+        Trial m = movedBy(0);
         CHECKS.due("no error", m.run(20, 1, 1, 1), 0);
         CHECKS.due("no error", m.worst(0), 0);
 
-        MaskEdges beyond = CHECKS.plain(0, 0, 48, 48);
+        Trial beyond = CHECKS.plain(0, 0, 48, 48);
         beyond.cut(48);
         beyond.shift(0, 5);
         CHECKS.due("no error, though beyond the limit", beyond.run(20, 1, 1, 1), 0);
@@ -115,7 +115,7 @@ final class Promise08Test {
 
     /** Against an error of 1 the one row of the mask goes, and nothing prints any more. */
     private static void endsWhenWorse() {
-        MaskEdges m = new MaskEdges();
+        Trial m = new Trial();
         CHECKS.rectangle(m, 10, 10, 20, 11);
         m.kernel(1, 1);
         m.cut(48);
@@ -123,17 +123,17 @@ final class Promise08Test {
         CHECKS.due("run(20, 1, 1, 6)", m.run(20, 1, 1, 6), 0);
         CHECKS.dueMoves("as before", m, 0, 0, 0, 0);
         CHECKS.dueErrors("as before", m, 1, 1, 1, 1);
-        CHECKS.dueRectangle("as before", m, 1, new int[] {10, 10, 20, 11});
+        CHECKS.dueCells("as before", m, 1, Checks.box(10, 10, 20, 11));
         CHECKS.due("worst(0)", m.worst(0), 1);
         CHECKS.due("worst(1)", m.worst(1), -1);
         m.shift(2, -1);
         CHECKS.due("with moves before", m.run(20, 1, 1, 6), 0);
         CHECKS.dueMoves("with moves before", m, 0, -1, 0, -1);
-        CHECKS.dueRectangle("with moves before", m, 1, new int[] {11, 10, 19, 11});
+        CHECKS.dueCells("with moves before", m, 1, Checks.box(11, 10, 19, 11));
     }
 
     private static void thresholdStays() {
-        MaskEdges m = new MaskEdges();
+        Trial m = new Trial();
         CHECKS.rectangle(m, 10, 10, 20, 20);
         m.kernel(5, 0);
         m.cut(48);
@@ -148,7 +148,7 @@ final class Promise08Test {
     }
 
     private static void flatOnesStay() {
-        MaskEdges m = new MaskEdges();
+        Trial m = new Trial();
         CHECKS.closed(m, 4, 4, 20, 4, 20, 20, 12, 20, 12, 4, 28, 4, 28, 30, 4, 30);
         m.cut(8);
         CHECKS.due("run(1, 1, 1, 6)", m.run(1, 1, 1, 6), 1);

@@ -3,7 +3,7 @@ final class Promise09Test {
     private static final Checks CHECKS = new Checks();
 
     public static void main(String[] args) {
-        MaskEdges m = CHECKS.plain(10, 10, 20, 20);
+        Trial m = CHECKS.plain(10, 10, 20, 20);
         CHECKS.due("before a cut", m.moved(0), 0);
         m.cut(5);
         CHECKS.dueMoves("behind a cut", m, 0, 0, 0, 0, 0, 0, 0, 0);

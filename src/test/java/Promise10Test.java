@@ -3,7 +3,7 @@ final class Promise10Test {
     private static final Checks CHECKS = new Checks();
 
     public static void main(String[] args) {
-        MaskEdges m = CHECKS.plain(15, 15, 30, 30);
+        Trial m = CHECKS.plain(15, 15, 30, 30);
         m.cut(48);
         m.shift(0, 6);
         CHECKS.due("before a run", m.worst(0), -1);
@@ -29,7 +29,7 @@ final class Promise10Test {
         CHECKS.finish();
     }
 
-    private static void dueWorsts(String when, MaskEdges m, int... worsts) {
+    private static void dueWorsts(String when, Trial m, int... worsts) {
         for (int i = 0; i < worsts.length; i++) {
             CHECKS.due(when + ": worst(" + i + ")", m.worst(i), worsts[i]);
         }
@@ -39,7 +39,7 @@ final class Promise10Test {
     }
 
     private static void greatestOfDifferentOnes() {
-        MaskEdges m = CHECKS.plain(15, 15, 30, 30);
+        Trial m = CHECKS.plain(15, 15, 30, 30);
         m.cut(48);
         m.shift(1, 2);
         m.shift(2, -3);
@@ -52,7 +52,7 @@ final class Promise10Test {
         int[][] rectangles = {{0, 15, 48, 48}, {0, 0, 33, 48}, {0, 0, 48, 33}, {15, 0, 48, 48}};
         for (int side = 0; side < 4; side++) {
             int[] r = rectangles[side];
-            MaskEdges m = CHECKS.plain(r[0], r[1], r[2], r[3]);
+            Trial m = CHECKS.plain(r[0], r[1], r[2], r[3]);
             m.cut(48);
             m.shift(0, 3);
             m.run(1, 1, 1, 6);
@@ -62,7 +62,7 @@ final class Promise10Test {
 
     /** Rounds that put a row in and out again, without an end of their own. */
     private static void twentyRounds() {
-        MaskEdges m = new MaskEdges();
+        Trial m = new Trial();
         CHECKS.rectangle(m, 10, 10, 16, 16);
         m.kernel(6, 1);
         m.kernel(-1, 3);

@@ -20,8 +20,8 @@ final class Promise11Test {
         int[][] wrong = {
             {0, 1}, {9, 1}, {1, 0}, {1, 5}, {-1, -1}, {Integer.MAX_VALUE, 1}, {1, Integer.MIN_VALUE}
         };
-        MaskEdges none = CHECKS.plain(20, 20, 30, 30);
-        MaskEdges m = CHECKS.plain(20, 20, 30, 30);
+        Trial none = CHECKS.plain(20, 20, 30, 30);
+        Trial m = CHECKS.plain(20, 20, 30, 30);
         m.cut(5);
         for (int[] w : wrong) {
             String call = "helper(" + w[0] + ", " + w[1] + ")";
@@ -29,12 +29,12 @@ final class Promise11Test {
             CHECKS.due(call, m.helper(w[0], w[1]), -2);
         }
         CHECKS.due("helper(1, 1) without pieces", none.helper(1, 1), -3);
-        CHECKS.dueRectangle("no bars", m, 1, new int[] {20, 20, 30, 30});
+        CHECKS.dueCells("no bars", m, 1, Checks.box(20, 20, 30, 30));
         CHECKS.due("helper(8, 4)", m.helper(8, 4), 4);
     }
 
     private static void places() {
-        MaskEdges m = CHECKS.plain(20, 20, 30, 30);
+        Trial m = CHECKS.plain(20, 20, 30, 30);
         m.cut(5);
         CHECKS.due("helper(3, 2)", m.helper(3, 2), 4);
         for (int y = 0; y < 48; y++) {
@@ -49,7 +49,7 @@ final class Promise11Test {
     }
 
     private static void onceEach() {
-        MaskEdges m = CHECKS.plain(20, 20, 30, 30);
+        Trial m = CHECKS.plain(20, 20, 30, 30);
         m.cut(48);
         CHECKS.due("helper(3, 2)", m.helper(3, 2), 4);
         CHECKS.due("the same again", m.helper(3, 2), 0);
@@ -60,7 +60,7 @@ final class Promise11Test {
     }
 
     private static void shortSides() {
-        MaskEdges m = CHECKS.plain(20, 20, 25, 26);
+        Trial m = CHECKS.plain(20, 20, 25, 26);
         m.cut(48);
         CHECKS.due("only sides of 6", m.helper(1, 1), 2);
         CHECKS.due("beside the right one", m.is(26, 21, 1) && m.is(26, 24, 1), true);
@@ -68,14 +68,14 @@ final class Promise11Test {
     }
 
     private static void onTheGrid() {
-        MaskEdges m = CHECKS.plain(4, 20, 14, 48);
+        Trial m = CHECKS.plain(4, 20, 14, 48);
         m.cut(48);
         CHECKS.due("all but the bottom", m.helper(1, 1), 3);
         CHECKS.due("left up to the edge", m.helper(2, 2), 3);
         CHECKS.due("left in the grid", m.is(0, 21, 1), true);
         CHECKS.due("one row beyond it", m.helper(4, 1), 2);
 
-        MaskEdges wide = CHECKS.plain(0, 4, 48, 44);
+        Trial wide = CHECKS.plain(0, 4, 48, 44);
         wide.cut(48);
         CHECKS.due("only one row is beyond", wide.helper(2, 3), 0);
         CHECKS.due("up to both edges", wide.helper(2, 2), 2);
@@ -83,7 +83,7 @@ final class Promise11Test {
         CHECKS.due("row 0, ends", wide.is(0, 0, 1) || wide.is(47, 47, 1), false);
         CHECKS.due("only in the first and last row", wide.helper(3, 1), 0);
 
-        MaskEdges high = CHECKS.plain(4, 0, 44, 48);
+        Trial high = CHECKS.plain(4, 0, 44, 48);
         high.cut(48);
         CHECKS.due("only one column is beyond", high.helper(3, 2), 0);
         CHECKS.due("up to both edges", high.helper(3, 1), 2);
@@ -91,7 +91,7 @@ final class Promise11Test {
     }
 
     private static void notInTheTarget() {
-        MaskEdges m = CHECKS.plain(20, 20, 30, 30);
+        Trial m = CHECKS.plain(20, 20, 30, 30);
         CHECKS.rectangle(m, 28, 16, 33, 17);
         m.cut(48);
         CHECKS.due("one cell of the bar above is in it", m.helper(3, 1), 3);
@@ -101,7 +101,7 @@ final class Promise11Test {
 
     /** In the inner corner of an L two bars would meet: the first one comes. */
     private static void notInOneOfTheSameCall() {
-        MaskEdges m = new MaskEdges();
+        Trial m = new Trial();
         CHECKS.closed(m, 10, 10, 30, 10, 30, 20, 20, 20, 20, 30, 10, 30);
         m.cut(48);
         CHECKS.due("helper(2, 2)", m.helper(2, 2), 5);
@@ -110,7 +110,7 @@ final class Promise11Test {
     }
 
     private static void movesDoNotMatter() {
-        MaskEdges m = CHECKS.plain(20, 20, 30, 30);
+        Trial m = CHECKS.plain(20, 20, 30, 30);
         m.cut(48);
         m.shift(0, 6);
         CHECKS.due("over what is moved", m.helper(1, 1), 4);
@@ -121,7 +121,7 @@ final class Promise11Test {
     }
 
     private static void mostBars() {
-        MaskEdges m = CHECKS.plain(25, 25, 33, 33);
+        Trial m = CHECKS.plain(25, 25, 33, 33);
         CHECKS.rectangle(m, 0, 0, 1, 48);
         m.cut(48);
         for (int space = 1; space <= 4; space++) {
@@ -136,7 +136,7 @@ final class Promise11Test {
 
     /** Both sides on y = 4 want the same row; the first one's first piece is flat, so it has no bar. */
     private static void firstPieceFlat() {
-        MaskEdges m = new MaskEdges();
+        Trial m = new Trial();
         CHECKS.closed(m, 12, 4, 28, 4, 28, 30, 4, 30, 4, 4, 20, 4, 20, 20, 12, 20);
         CHECKS.due("cut(8)", m.cut(8), 20);
         m.helper(1, 1);

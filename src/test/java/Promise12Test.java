@@ -10,8 +10,8 @@ final class Promise12Test {
         CHECKS.finish();
     }
 
-    private static MaskEdges withBars(int weight, int width) {
-        MaskEdges m = new MaskEdges();
+    private static Trial withBars(int weight, int width) {
+        Trial m = new Trial();
         CHECKS.rectangle(m, 15, 15, 25, 25);
         m.kernel(weight, width);
         m.cut(48);
@@ -20,7 +20,7 @@ final class Promise12Test {
     }
 
     private static void doses() {
-        MaskEdges m = withBars(1, 0);
+        Trial m = withBars(1, 0);
         for (int bar = 0; bar < 4; bar++) {
             CHECKS.due("prints(" + bar + ", 100)", m.prints(bar, 100), true);
             CHECKS.due("prints(" + bar + ", 99)", m.prints(bar, 99), false);
@@ -30,15 +30,15 @@ final class Promise12Test {
         m.run(1, 10, 1, 1);
         CHECKS.due("threshold 10, dose 1000", m.prints(0, 1000), true);
         CHECKS.due("threshold 10, dose 999", m.prints(0, 999), false);
-        MaskEdges bright = withBars(20, 2);
+        Trial bright = withBars(20, 2);
         CHECKS.due("image 100 at dose 1", bright.prints(0, 1), true);
-        MaskEdges dark = withBars(-1, 0);
+        Trial dark = withBars(-1, 0);
         CHECKS.due("an image below 0", dark.prints(0, 1000), false);
     }
 
     /** Along a bar the image is 2, 3 .. 3, 2. */
     private static void oneCellIsEnough() {
-        MaskEdges m = withBars(1, 1);
+        Trial m = withBars(1, 1);
         m.run(1, 3, 1, 1);
         CHECKS.due("its end does not print", m.is(16, 6, 2), false);
         CHECKS.due("all but the ends print", m.prints(0, 100), true);
@@ -50,7 +50,7 @@ final class Promise12Test {
     }
 
     private static void lastCellOnly() {
-        MaskEdges m = new MaskEdges();
+        Trial m = new Trial();
         CHECKS.rectangle(m, 15, 15, 25, 25);
         CHECKS.rectangle(m, 24, 6, 27, 7);
         m.kernel(1, 1);
@@ -70,7 +70,7 @@ final class Promise12Test {
         int[][] larges = {{10, 28, 30, 40}, {28, 10, 40, 30}, {10, 0, 30, 12}, {0, 10, 12, 30}};
         int[] bars = {2, 1, 0, 3};
         for (int i = 0; i < larges.length; i++) {
-            MaskEdges m = new MaskEdges();
+            Trial m = new Trial();
             CHECKS.rectangle(m, 15, 15, 25, 25);
             CHECKS.rectangle(m, larges[i][0], larges[i][1], larges[i][2], larges[i][3]);
             m.kernel(1, 1);
@@ -86,7 +86,7 @@ final class Promise12Test {
     }
 
     private static void none() {
-        MaskEdges m = withBars(20, 0);
+        Trial m = withBars(20, 0);
         int[] bars = {-1, 4, 24, Integer.MAX_VALUE, Integer.MIN_VALUE};
         for (int bar : bars) {
             CHECKS.due("prints(" + bar + ", 100)", m.prints(bar, 100), false);

@@ -14,19 +14,19 @@ final class Promise14Test {
 
     /** Middles 4 cells and 3 cells behind the side's ends. */
     private static void reach() {
-        MaskEdges far = CHECKS.plain(10, 10, 40, 40);
+        Trial far = CHECKS.plain(10, 10, 40, 40);
         far.cut(10);
         CHECKS.due("4 cells to the end", far.alike(0, 1), true);
         CHECKS.due("4 cells to the end", far.alike(2, 0), true);
 
-        MaskEdges near = CHECKS.plain(10, 10, 42, 42);
+        Trial near = CHECKS.plain(10, 10, 42, 42);
         near.cut(8);
         CHECKS.due("3 cells to the end", near.alike(0, 1), false);
         CHECKS.due("3 cells to the end", near.alike(1, 0), false);
         CHECKS.due("4 cells to the other end", near.alike(1, 3), true);
         CHECKS.due("a piece with itself", near.alike(0, 0), true);
 
-        MaskEdges odd = CHECKS.plain(10, 10, 38, 38);
+        Trial odd = CHECKS.plain(10, 10, 38, 38);
         odd.cut(7);
         for (int side = 0; side < 4; side++) {
             int piece = 4 * side;
@@ -35,7 +35,7 @@ final class Promise14Test {
             CHECKS.due("3 cells to the other end, side " + side, odd.alike(piece + 2, piece + 3), false);
         }
 
-        MaskEdges deep = CHECKS.plain(5, 10, 20, 15);
+        Trial deep = CHECKS.plain(5, 10, 20, 15);
         CHECKS.rectangle(deep, 25, 10, 40, 14);
         CHECKS.rectangle(deep, 5, 30, 20, 36);
         deep.cut(48);
@@ -45,20 +45,20 @@ final class Promise14Test {
 
     /** A square is the same all round but for the way outward. */
     private static void outward() {
-        MaskEdges m = CHECKS.plain(10, 10, 40, 40);
+        Trial m = CHECKS.plain(10, 10, 40, 40);
         m.cut(10);
         for (int a = 0; a < 12; a++) {
             for (int b = 0; b < 12; b++) {
                 CHECKS.due("alike(" + a + ", " + b + ")", m.alike(a, b), a / 3 == b / 3);
             }
         }
-        MaskEdges thin = CHECKS.plain(10, 10, 40, 11);
+        Trial thin = CHECKS.plain(10, 10, 40, 11);
         thin.cut(10);
         CHECKS.due("the same cell from both hands", thin.alike(0, 6), false);
     }
 
     private static void acrossPolygons() {
-        MaskEdges m = CHECKS.plain(5, 5, 12, 12);
+        Trial m = CHECKS.plain(5, 5, 12, 12);
         CHECKS.rectangle(m, 30, 30, 37, 37);
         CHECKS.rectangle(m, 30, 10, 37, 18);
         m.cut(48);
@@ -70,7 +70,7 @@ final class Promise14Test {
     }
 
     private static void beyondTheGrid() {
-        MaskEdges m = CHECKS.plain(0, 0, 12, 12);
+        Trial m = CHECKS.plain(0, 0, 12, 12);
         CHECKS.rectangle(m, 20, 20, 32, 32);
         m.cut(4);
         for (int piece = 0; piece < 12; piece++) {
@@ -79,7 +79,7 @@ final class Promise14Test {
     }
 
     private static void targetNotMask() {
-        MaskEdges m = CHECKS.plain(10, 10, 40, 40);
+        Trial m = CHECKS.plain(10, 10, 40, 40);
         m.cut(10);
         m.shift(3, 4);
         m.shift(0, -2);
@@ -89,7 +89,7 @@ final class Promise14Test {
     }
 
     private static void flatOrNone() {
-        MaskEdges m = CHECKS.plain(10, 10, 40, 40);
+        Trial m = CHECKS.plain(10, 10, 40, 40);
         m.cut(48);
         int[] none = {-1, 4, 120, Integer.MAX_VALUE, Integer.MIN_VALUE};
         for (int number : none) {
@@ -97,7 +97,7 @@ final class Promise14Test {
             CHECKS.due("alike(" + number + ", 0)", m.alike(number, 0), false);
             CHECKS.due("alike(" + number + ", itself)", m.alike(number, number), false);
         }
-        MaskEdges flat = new MaskEdges();
+        Trial flat = new Trial();
         CHECKS.closed(flat, 4, 4, 20, 4, 20, 20, 12, 20, 12, 4, 28, 4, 28, 30, 4, 30);
         flat.cut(8);
         CHECKS.due("flat with itself", flat.alike(1, 1), false);

@@ -16,8 +16,8 @@ final class Promise15Test {
             {-1, 0}, {4, 0}, {0, 7}, {0, -7},
             {Integer.MAX_VALUE, 1}, {0, Integer.MAX_VALUE}, {3, Integer.MIN_VALUE}
         };
-        MaskEdges none = CHECKS.plain(10, 10, 20, 20);
-        MaskEdges m = CHECKS.plain(10, 10, 20, 20);
+        Trial none = CHECKS.plain(10, 10, 20, 20);
+        Trial m = CHECKS.plain(10, 10, 20, 20);
         m.cut(48);
         for (int[] w : wrong) {
             String call = "shift(" + w[0] + ", " + w[1] + ")";
@@ -29,14 +29,14 @@ final class Promise15Test {
     }
 
     /** A top side of four pieces, a right one of three, and so on. */
-    private static MaskEdges sevenPairs() {
-        MaskEdges m = CHECKS.plain(10, 10, 30, 25);
+    private static Trial sevenPairs() {
+        Trial m = CHECKS.plain(10, 10, 30, 25);
         CHECKS.due("cut(5)", m.cut(5), 14);
         return m;
     }
 
     private static void rules() {
-        MaskEdges m = sevenPairs();
+        Trial m = sevenPairs();
         CHECKS.due("shift(0, 1)", m.shift(0, 1), 14);
         CHECKS.dueMoves("all", m, 1, 1, 1, 1, 1, 1, 1, 1, 1, 1, 1, 1, 1, 1);
         m = sevenPairs();
@@ -54,7 +54,7 @@ final class Promise15Test {
     }
 
     private static void withinSix() {
-        MaskEdges m = sevenPairs();
+        Trial m = sevenPairs();
         CHECKS.due("shift(0, 0)", m.shift(0, 0), 0);
         CHECKS.due("shift(0, 4)", m.shift(0, 4), 14);
         CHECKS.due("shift(1, 2)", m.shift(1, 2), 8);
@@ -69,7 +69,7 @@ final class Promise15Test {
     }
 
     private static void flatOnesStay() {
-        MaskEdges m = new MaskEdges();
+        Trial m = new Trial();
         CHECKS.closed(m, 4, 4, 20, 4, 20, 20, 12, 20, 12, 4, 28, 4, 28, 30, 4, 30);
         CHECKS.due("cut(8)", m.cut(8), 20);
         CHECKS.due("shift(0, -6)", m.shift(0, -6), 18);
@@ -78,13 +78,13 @@ final class Promise15Test {
     }
 
     private static void maskFollows() {
-        MaskEdges m = CHECKS.plain(10, 10, 20, 20);
+        Trial m = CHECKS.plain(10, 10, 20, 20);
         m.cut(48);
         m.shift(1, 3);
-        CHECKS.dueRectangle("along x outward", m, 1, new int[] {10, 7, 20, 23});
+        CHECKS.dueCells("along x outward", m, 1, Checks.box(10, 7, 20, 23));
         m.shift(1, -5);
-        CHECKS.dueRectangle("along x inward", m, 1, new int[] {10, 12, 20, 18});
-        CHECKS.dueRectangle("what prints", m, 2, new int[] {10, 12, 20, 18});
-        CHECKS.dueRectangle("the target", m, 0, new int[] {10, 10, 20, 20});
+        CHECKS.dueCells("along x inward", m, 1, Checks.box(10, 12, 20, 18));
+        CHECKS.dueCells("what prints", m, 2, Checks.box(10, 12, 20, 18));
+        CHECKS.dueCells("the target", m, 0, Checks.box(10, 10, 20, 20));
     }
 }

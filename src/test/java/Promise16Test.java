@@ -13,13 +13,13 @@ final class Promise16Test {
     }
 
     private static void whats() {
-        MaskEdges m = new MaskEdges();
+        Trial m = new Trial();
         CHECKS.rectangle(m, 15, 15, 25, 25);
         m.kernel(1, 1);
         m.cut(48);
         m.shift(1, 2);
         m.shift(2, -2);
-        CHECKS.dueRectangle("target", m, 0, new int[] {15, 15, 25, 25});
+        CHECKS.dueCells("target", m, 0, Checks.box(15, 15, 25, 25));
         CHECKS.due("top, put in", m.is(20, 13, 1), true);
         CHECKS.due("top, behind it", m.is(20, 12, 1), false);
         CHECKS.due("left, taken out", m.is(16, 20, 1), false);
@@ -31,11 +31,11 @@ final class Promise16Test {
         CHECKS.due("prints no farther", m.is(15, 20, 2), false);
         m.run(1, 9, 1, 6);
         m.cut(48);
-        CHECKS.dueRectangle("all nine", m, 2, new int[] {16, 16, 24, 24});
+        CHECKS.dueCells("all nine", m, 2, Checks.box(16, 16, 24, 24));
     }
 
     private static void none() {
-        MaskEdges m = CHECKS.plain(0, 0, 48, 48);
+        Trial m = CHECKS.plain(0, 0, 48, 48);
         m.kernel(20, 6);
         int[] whats = {-1, 3, Integer.MAX_VALUE, Integer.MIN_VALUE};
         for (int what : whats) {
@@ -51,7 +51,7 @@ final class Promise16Test {
     }
 
     private static void beyondTheGrid() {
-        MaskEdges m = CHECKS.plain(2, 2, 46, 46);
+        Trial m = CHECKS.plain(2, 2, 46, 46);
         m.cut(48);
         CHECKS.due("shift(0, 6)", m.shift(0, 6), 4);
         CHECKS.due("up to the grid's edge", m.is(0, 20, 1) && m.is(47, 20, 1), true);
@@ -60,10 +60,10 @@ final class Promise16Test {
     }
 
     private static void inwardFromTheGridsEdge() {
-        MaskEdges m = CHECKS.plain(0, 0, 48, 48);
+        Trial m = CHECKS.plain(0, 0, 48, 48);
         m.cut(48);
         m.shift(0, -2);
-        CHECKS.dueRectangle("two rows out all round", m, 1, new int[] {2, 2, 46, 46});
+        CHECKS.dueCells("two rows out all round", m, 1, Checks.box(2, 2, 46, 46));
     }
 
     /**
@@ -71,7 +71,7 @@ final class Promise16Test {
      * is asked is whether it is in the mask then.
      */
     private static boolean piecesInTurn(boolean largeFirst) {
-        MaskEdges m = new MaskEdges();
+        Trial m = new Trial();
         if (largeFirst) {
             CHECKS.rectangle(m, 10, 10, 20, 40);
         }
