@@ -3,16 +3,16 @@ final class Promise01Test {
     private static final Checks CHECKS = new Checks();
 
     public static void main(String[] args) {
-        nothingIsThere();
+        CHECKS.sentence("No POLYGONS, KERNELS, HELPERS");
+        nothingIsThere(new Trial());
+        allRoomIsThere();
         objectsShareNothing();
-        thresholdIsOne();
         CHECKS.finish();
     }
 
-    private static void nothingIsThere() {
-        Trial m = new Trial();
+    private static void nothingIsThere(Trial m) {
         for (int what = 0; what <= 2; what++) {
-            CHECKS.dueCells("new", m, what, Checks.box(0, 0, 0, 0));
+            CHECKS.dueCells("new", m, what);
         }
         CHECKS.due("image(5, 5)", m.image(5, 5), 0);
         CHECKS.due("error(0)", m.error(0), 0);
@@ -30,17 +30,22 @@ final class Promise01Test {
         CHECKS.due("kernel(1, 1)", m.kernel(1, 1), 0);
     }
 
+    private static void allRoomIsThere() {
+        Trial m = new Trial();
+        for (int i = 0; i < 4; i++) {
+            CHECKS.due("polygon()", m.polygon(), i);
+        }
+        for (int i = 0; i < 6; i++) {
+            CHECKS.due("kernel(1, 1)", m.kernel(1, 1), i);
+        }
+    }
+
     private static void objectsShareNothing() {
         Trial used = CHECKS.plain(10, 10, 20, 20);
         used.cut(5);
         used.helper(1, 1);
         used.shift(0, 3);
         used.run(1, 7, 1, 6);
-        nothingIsThere();
-    }
-
-    private static void thresholdIsOne() {
-        Trial m = CHECKS.plain(10, 10, 20, 20);
-        CHECKS.dueCells("threshold 1", m, 2, Checks.box(10, 10, 20, 20));
+        nothingIsThere(new Trial());
     }
 }

@@ -1,34 +1,54 @@
-/** cut: how many pieces, where they go from and to, their middles, and what a cut leaves. */
+/** cut: all pieces anew, what it leaves as it is, and what it refuses. */
 final class Promise05Test {
     private static final Checks CHECKS = new Checks();
 
     public static void main(String[] args) {
-        refusals();
-        counts();
-        mostPieces();
-        cutFromTheBeginning();
-        middles();
-        polygonsByNumber();
-        movesGoBarsStay();
+        lengths();
+        noLongerThanTold();
+        howMany();
+        allAnew();
+        withoutMoves();
+        barsStay();
+        noneIsClosed();
+        moreThanMost();
         CHECKS.finish();
     }
 
-    private static void refusals() {
-        Trial m = new Trial();
-        int[] lengths = {0, -1, 49, Integer.MAX_VALUE, Integer.MIN_VALUE};
-        for (int length : lengths) {
-            CHECKS.due("cut(" + length + ") of nothing", m.cut(length), -2);
+    private static void lengths() {
+        CHECKS.sentence("no longer than told (1 .. 48) .. -2");
+        int[] out = {0, -1, 49, Integer.MAX_VALUE, Integer.MIN_VALUE};
+        for (int length : out) {
+            CHECKS.due("cut(" + length + ") of nothing", new Trial().cut(length), -2);
+            Trial m = CHECKS.plain(10, 10, 20, 20);
+            CHECKS.changesNothing("cut(" + length + ")", m,
+                t -> CHECKS.due("cut(" + length + ")", t.cut(length), -2));
+            m.cut(5);
+            m.shift(3, 2);
+            CHECKS.changesNothing("cut(" + length + ") with pieces", m,
+                t -> CHECKS.due("cut(" + length + ")", t.cut(length), -2));
         }
-        CHECKS.due("cut(5) of nothing", m.cut(5), -3);
-        int open = m.polygon();
-        CHECKS.corners(m, open, 10, 10, 20, 10, 20, 20, 10, 20);
-        CHECKS.due("cut(5) of an open one", m.cut(5), -3);
-        m.corner(open, 10, 10);
-        CHECKS.due("cut(0)", m.cut(0), -2);
-        CHECKS.due("cut(5)", m.cut(5), 8);
+        int[][] lengthAndPieces = {{1, 40}, {2, 20}, {47, 4}, {48, 4}};
+        for (int[] each : lengthAndPieces) {
+            Trial m = CHECKS.plain(10, 10, 20, 20);
+            CHECKS.due("cut(" + each[0] + ")", m.cut(each[0]), each[1]);
+        }
     }
 
-    private static void counts() {
+    private static void noLongerThanTold() {
+        CHECKS.sentence("All PIECES anew, no longer than told");
+        Trial m = CHECKS.plain(0, 0, 48, 2);
+        CHECKS.due("a side of 48, cut(48)", m.cut(48), 4);
+        CHECKS.due("a side of 48, cut(47)", m.cut(47), 6);
+        m.shift(3, -1);
+        CHECKS.due("24 each", m.is(23, 0, 1) || m.is(24, 0, 1), false);
+        CHECKS.due("a side of 48, cut(16)", m.cut(16), 8);
+        m.shift(3, -1);
+        CHECKS.due("16 each", m.is(15, 0, 1) || m.is(32, 0, 1), false);
+        CHECKS.due("the middle one of them", m.is(16, 0, 1) && m.is(31, 0, 1), true);
+    }
+
+    private static void howMany() {
+        CHECKS.sentence("without MOVES (bars of HELPERS stay): how many");
         int[][] lengthAndPieces = {{48, 4}, {30, 4}, {29, 6}, {10, 8}, {9, 12}, {7, 14}, {1, 80}, {2, 40}};
         Trial m = CHECKS.plain(5, 5, 15, 35);
         int open = m.polygon();
@@ -38,86 +58,87 @@ final class Promise05Test {
         }
     }
 
-    private static void mostPieces() {
-        Trial m = CHECKS.plain(0, 0, 30, 30);
-        CHECKS.due("120 pieces", m.cut(1), 120);
-        CHECKS.due("a last piece to shift", m.shift(0, 1), 120);
-        CHECKS.due("moved(119)", m.moved(119), 1);
-        CHECKS.due("moved(120)", m.moved(120), 0);
-        CHECKS.due("a round of 120 pieces", m.run(20, 1, 1, 6), 1);
-        CHECKS.due("moved(59)", m.moved(59), 0);
-        CHECKS.due("bars with 120 pieces", m.helper(1, 1), 2);
-
-        Trial larger = CHECKS.plain(0, 0, 30, 31);
-        CHECKS.due("cut(48)", larger.cut(48), 4);
-        larger.shift(0, 2);
-        CHECKS.due("122 pieces", larger.cut(1), -4);
-        CHECKS.dueMoves("behind a refused cut", larger, 2, 2, 2, 2, 0);
-        CHECKS.due("119 pieces", stepAndSquare(34), 119);
-        CHECKS.due("121 pieces", stepAndSquare(36), -4);
-    }
-
-    /** An L whose sides along x are of 6, 3 and 3, which are 7 pieces of 2 at most. */
-    private static int stepAndSquare(int height) {
-        Trial m = new Trial();
-        CHECKS.closed(m, 0, 0, 6, 0, 6, 20, 3, 20, 3, 44, 0, 44);
-        CHECKS.rectangle(m, 10, 0, 44, height);
-        return m.cut(2);
-    }
-
-    /** A side of 10 in 3 pieces has them of 3, 3 and 4, from where it begins. */
-    private static void cutFromTheBeginning() {
+    /** Those of the cut before are gone, though there were more of them. */
+    private static void allAnew() {
+        CHECKS.sentence("All PIECES anew");
         Trial m = CHECKS.plain(10, 10, 20, 20);
-        CHECKS.due("cut(4)", m.cut(4), 12);
-        CHECKS.due("shift(3, 1)", m.shift(3, 1), 8);
-        for (int i = 0; i < 10; i++) {
-            boolean forth = i < 3 || i >= 6;
-            boolean back = i < 4 || i >= 7;
-            CHECKS.due("top, cell " + i, m.is(10 + i, 9, 1), forth);
-            CHECKS.due("right, cell " + i, m.is(20, 10 + i, 1), forth);
-            CHECKS.due("bottom, cell " + i, m.is(10 + i, 20, 1), back);
-            CHECKS.due("left, cell " + i, m.is(9, 10 + i, 1), back);
+        m.cut(1);
+        m.shift(0, 1);
+        CHECKS.due("moved(39)", m.moved(39), 1);
+        CHECKS.due("cut(48)", m.cut(48), 4);
+        CHECKS.due("shift(0, 2)", m.shift(0, 2), 4);
+        int[] gone = {4, 5, 39};
+        for (int piece : gone) {
+            CHECKS.due("moved(" + piece + ")", m.moved(piece), 0);
+            CHECKS.due("error(" + piece + ")", m.error(piece), 0);
+            CHECKS.due("edge(" + piece + ", 1000)", m.edge(piece, 1000), 0);
+            CHECKS.due("alike(" + piece + ", itself)", m.alike(piece, piece), false);
+        }
+        CHECKS.due("a run of those that are there", m.run(20, 1, 1, 6), 2);
+        CHECKS.due("more again", m.cut(5), 8);
+        CHECKS.due("shift(0, 1)", m.shift(0, 1), 8);
+    }
+
+    private static void withoutMoves() {
+        CHECKS.sentence("All PIECES anew, no longer than told (1 .. 48), without MOVES");
+        int[] moves = {-6, -1, 1, 6};
+        for (int v : moves) {
+            Trial m = CHECKS.plain(10, 10, 30, 30);
+            m.cut(5);
+            m.shift(0, v);
+            CHECKS.due("cut(5)", m.cut(5), 16);
+            CHECKS.dueMoves("moves of " + v + " before", m, 0, 0, 0, 0, 0, 0, 0, 0, 0, 0, 0, 0, 0, 0, 0, 0);
+            CHECKS.dueCells("moves of " + v + " before", m, 1, Checks.box(10, 10, 30, 30));
         }
     }
 
-    /** Above the top side only one column prints: the error tells whether it is the middle. */
-    private static void middles() {
-        int[][] widthAndMiddle = {{1, 0}, {2, 0}, {3, 1}, {4, 1}, {5, 2}, {6, 2}};
-        for (int[] each : widthAndMiddle) {
-            for (int column = 0; column < each[0]; column++) {
-                Trial m = CHECKS.plain(10, 10, 10 + each[0], 20);
-                CHECKS.rectangle(m, 10 + column, 5, 11 + column, 10);
-                m.cut(48);
-                CHECKS.due("middle of " + each[0] + ", column " + column,
-                    m.error(0), column == each[1] ? 5 : 0);
-            }
-        }
-    }
-
-    private static void polygonsByNumber() {
-        Trial m = new Trial();
-        m.kernel(1, 0);
-        m.polygon();
-        m.polygon();
-        CHECKS.corners(m, 1, 30, 30, 40, 30, 40, 45, 30, 45, 30, 30);
-        CHECKS.corners(m, 0, 10, 10, 10, 15, 20, 15, 20, 10, 10, 10);
-        CHECKS.due("cut(5)", m.cut(5), 6 + 10);
-        CHECKS.due("shift(1, 1)", m.shift(1, 1), 4 + 4);
-        CHECKS.dueMoves("polygon 0 first", m, 0, 1, 1, 0, 1, 1, 1, 1, 0, 0, 0, 1, 1, 0, 0, 0);
-    }
-
-    private static void movesGoBarsStay() {
+    private static void barsStay() {
+        CHECKS.sentence("(bars of HELPERS stay)");
         Trial m = CHECKS.plain(10, 10, 20, 20);
         m.cut(5);
         m.shift(0, 1);
         CHECKS.due("helper(3, 1)", m.helper(3, 1), 4);
-        CHECKS.due("moved into the mask", m.is(12, 9, 1), true);
         CHECKS.due("cut(48)", m.cut(48), 4);
-        CHECKS.dueMoves("cut anew", m, 0, 0, 0, 0);
-        CHECKS.due("no longer in the mask", m.is(12, 9, 1), false);
-        CHECKS.due("a bar", m.is(12, 6, 1), true);
-        CHECKS.due("prints(3, 100)", m.prints(3, 100), true);
-        CHECKS.due("moved(4)", m.moved(4), 0);
-        CHECKS.due("alike(4, 4)", m.alike(4, 4), false);
+        CHECKS.dueCells("the target and the bars", m, 1, Checks.box(10, 10, 20, 20),
+            Checks.box(11, 6, 19, 7), Checks.box(23, 11, 24, 19), Checks.box(11, 23, 19, 24), Checks.box(6, 11, 7, 19));
+        for (int bar = 0; bar < 4; bar++) {
+            CHECKS.due("prints(" + bar + ", 100)", m.prints(bar, 100), true);
+        }
+        CHECKS.due("no others where they are", m.helper(3, 1), 0);
+    }
+
+    private static void noneIsClosed() {
+        CHECKS.sentence("-3 no POLYGON is CLOSED");
+        Trial m = new Trial();
+        CHECKS.due("no polygon", m.cut(5), -3);
+        m.polygon();
+        CHECKS.due("no corner", m.cut(5), -3);
+        CHECKS.corners(m, 0, 10, 10, 20, 10, 20, 20, 10, 20);
+        CHECKS.changesNothing("cut(5) of an open one", m, t -> CHECKS.due("cut(5)", t.cut(5), -3));
+        m.corner(0, 10, 10);
+        CHECKS.due("one is closed", m.cut(5), 8);
+        Trial second = new Trial();
+        second.polygon();
+        second.corner(0, 1, 1);
+        CHECKS.rectangle(second, 10, 10, 20, 20);
+        CHECKS.due("the second one is closed", second.cut(5), 8);
+    }
+
+    private static void moreThanMost() {
+        CHECKS.sentence("-4 there would be more than 120");
+        CHECKS.due("120 pieces of one", CHECKS.plain(0, 0, 30, 30).cut(1), 120);
+        CHECKS.due("122 pieces of one", CHECKS.plain(0, 0, 30, 31).cut(1), -4);
+        CHECKS.due("192 pieces of one", CHECKS.plain(0, 0, 48, 48).cut(1), -4);
+
+        Trial m = new Trial();
+        for (int i = 0; i < 4; i++) {
+            CHECKS.rectangle(m, 12 * i, 0, 12 * i + 10, 40);
+        }
+        CHECKS.due("of four: 2 and 8 each", m.cut(5), 4 * 20);
+        CHECKS.due("of four: 3 and 10 each", m.cut(4), 4 * 26);
+        m.shift(3, 2);
+        m.helper(1, 1);
+        CHECKS.changesNothing("a cut into too many", m, t -> CHECKS.due("4 and 14 each", t.cut(3), -4));
+        CHECKS.changesNothing("a cut into far too many", m, t -> CHECKS.due("10 and 40 each", t.cut(1), -4));
     }
 }

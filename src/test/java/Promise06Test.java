@@ -1,16 +1,18 @@
-/** image: weights by the cells of the mask that are not farther than the widths. */
+/** image: the image at a cell, by all kernels and the mask as it is now. */
 final class Promise06Test {
     private static final Checks CHECKS = new Checks();
 
     public static void main(String[] args) {
         oneKernel();
         kernelsAddUp();
-        gridsEdge();
-        maskNotTarget();
+        leastAndGreatest();
+        noneBeyondTheGrid();
+        byTheMaskNotTheTarget();
         CHECKS.finish();
     }
 
     private static void oneKernel() {
+        CHECKS.sentence("THE IMAGE at a CELL");
         Trial m = new Trial();
         CHECKS.rectangle(m, 10, 10, 20, 20);
         CHECKS.due("no kernel", m.image(15, 15), 0);
@@ -25,6 +27,7 @@ final class Promise06Test {
     }
 
     private static void kernelsAddUp() {
+        CHECKS.sentence("THE IMAGE at a CELL");
         Trial m = CHECKS.plain(10, 10, 20, 20);
         m.kernel(-2, 1);
         m.kernel(20, 6);
@@ -32,22 +35,42 @@ final class Promise06Test {
         CHECKS.due("outside", m.image(9, 15), -2 * 3 + 20 * 6 * 10);
     }
 
-    private static void gridsEdge() {
-        Trial m = new Trial();
-        CHECKS.rectangle(m, 0, 0, 48, 48);
-        m.kernel(1, 6);
-        CHECKS.due("image(0, 0)", m.image(0, 0), 49);
-        CHECKS.due("image(47, 47)", m.image(47, 47), 49);
-        CHECKS.due("image(47, 20)", m.image(47, 20), 91);
-        CHECKS.due("image(20, 20)", m.image(20, 20), 169);
-        int[] none = {-1, 48, Integer.MAX_VALUE, Integer.MIN_VALUE};
-        for (int c : none) {
-            CHECKS.due("image(" + c + ", 5)", m.image(c, 5), 0);
-            CHECKS.due("image(5, " + c + ")", m.image(5, c), 0);
+    /** Six kernels of the greatest weight and width over a full mask. */
+    private static void leastAndGreatest() {
+        CHECKS.sentence("THE IMAGE at a CELL");
+        int[] signs = {-1, 1};
+        for (int sign : signs) {
+            Trial m = new Trial();
+            CHECKS.rectangle(m, 0, 0, 48, 48);
+            for (int i = 0; i < 6; i++) {
+                m.kernel(20 * sign, 6);
+            }
+            CHECKS.due("in the middle", m.image(24, 24), sign * 6 * 20 * 169);
+            CHECKS.due("in the corner", m.image(47, 0), sign * 6 * 20 * 49);
+            CHECKS.due("it prints above 0 alone", m.is(24, 24, 2), sign > 0);
         }
     }
 
-    private static void maskNotTarget() {
+    private static void noneBeyondTheGrid() {
+        CHECKS.sentence("0 if it is none");
+        Trial m = new Trial();
+        CHECKS.rectangle(m, 0, 0, 48, 48);
+        m.kernel(1, 6);
+        int[] none = {-1, -7, 48, 54, 64, Integer.MAX_VALUE, Integer.MIN_VALUE};
+        for (int c : none) {
+            CHECKS.due("image(" + c + ", 5)", m.image(c, 5), 0);
+            CHECKS.due("image(5, " + c + ")", m.image(5, c), 0);
+            CHECKS.due("image(" + c + ", " + c + ")", m.image(c, c), 0);
+        }
+        int[] some = {0, 47};
+        for (int c : some) {
+            CHECKS.due("image(" + c + ", 20)", m.image(c, 20), 91);
+            CHECKS.due("image(20, " + c + ")", m.image(20, c), 91);
+        }
+    }
+
+    private static void byTheMaskNotTheTarget() {
+        CHECKS.sentence("THE IMAGE at a CELL");
         Trial m = CHECKS.plain(10, 10, 20, 20);
         m.cut(48);
         CHECKS.due("target alone", m.image(15, 8), 0);
