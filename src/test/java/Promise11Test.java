@@ -20,6 +20,7 @@ final class Promise11Test {
         howManyThereAreMore();
         noPieces();
         mostBars();
+        oneBarMore();
         mostBarsInOneCall();
         CHECKS.finish();
     }
@@ -180,6 +181,11 @@ final class Promise11Test {
         CHECKS.due("up to both edges", edge.helper(2, 2), 2);
         CHECKS.dueCells("up to both edges", edge, 1, Checks.box(0, 4, 48, 44),
             Checks.box(1, 0, 47, 2), Checks.box(1, 46, 47, 48));
+        CHECKS.due("in the first and the last row there are some", edge.helper(3, 1), 0);
+        Trial upright = CHECKS.plain(4, 0, 44, 48);
+        upright.cut(48);
+        CHECKS.due("up to both edges", upright.helper(2, 2), 2);
+        CHECKS.due("in the first and the last column there are some", upright.helper(3, 1), 0);
     }
 
     /** One CELL of another polygon, in the bar above the square (two rows, 15 and 16) or beside it. */
@@ -281,7 +287,27 @@ final class Promise11Test {
         CHECKS.due("none behind a cut either", m.helper(7, 1), 0);
     }
 
-    /** 23 bars, and room for two more: one comes. */
+    /** On its left only the first two have room. With 23 of them three have room, and one comes. */
+    private static void oneBarMore() {
+        CHECKS.sentence("with 24 bars no more come");
+        Trial m = CHECKS.plain(3, 20, 13, 30);
+        m.cut(48);
+        int[] more = {4, 4, 3, 3, 3, 3, 3};
+        for (int space = 1; space <= 7; space++) {
+            CHECKS.due("helper(" + space + ", 1)", m.helper(space, 1), more[space - 1]);
+        }
+        CHECKS.due("23 bars", m.prints(22, 100), true);
+        CHECKS.due("no 24th", m.prints(23, 100), false);
+        CHECKS.due("the 24th", m.helper(8, 1), 1);
+        CHECKS.due("it is the one above", m.is(8, 11, 1), true);
+        CHECKS.due("not the one on the right", m.is(21, 25, 1), false);
+        CHECKS.due("not the one below", m.is(8, 38, 1), false);
+        CHECKS.due("prints(23, 100)", m.prints(23, 100), true);
+        CHECKS.due("prints(24, 100)", m.prints(24, 100), false);
+        CHECKS.due("helper(8, 1) again", m.helper(8, 1), 0);
+    }
+
+    /** 20 bars, and six sides that have room for one more: the first four come. */
     private static void mostBarsInOneCall() {
         CHECKS.sentence("with 24 bars no more come");
         Trial m = CHECKS.plain(25, 25, 33, 33);

@@ -178,6 +178,7 @@ final class TermsPiecesTest {
     private static void flatWithNoneOnBothHands() {
         CHECKS.sentence("else the PIECE is FLAT");
         Trial m = CHECKS.crossing();
+        CHECKS.due("cut(4): flat ones have other numbers then", m.cut(4), 38);
         CHECKS.due("cut(8)", m.cut(8), 20);
         CHECKS.due("all but two move", m.shift(0, 1), 18);
         CHECKS.dueMoves("1 and 7 are flat", m, 1, 0, 1, 1, 1, 1, 1, 0, 1, 1, 1, 1, 1, 1, 1, 1, 1, 1, 1, 1);

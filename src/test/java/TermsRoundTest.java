@@ -12,7 +12,9 @@ final class TermsRoundTest {
         keptWithTheSameWorstError();
         keptWithALesserWorstError();
         notKeptWithAGreaterWorstError();
+        notKeptWithAWorstErrorOneGreater();
         notKeptBehindKeptOnes();
+        notKeptWithAllPieces();
         notKeptWithoutAnotherMove();
         oneOtherMoveIsEnough();
         endsWithoutAnError();
@@ -157,6 +159,24 @@ final class TermsRoundTest {
         CHECKS.dueCells("with moves before", m, 1, Checks.box(11, 10, 19, 11));
     }
 
+    /**
+     * A row of the mask is left by the round. Above and below it all is well then, but at its ends
+     * the image is 1 and 2, where 3 is asked: an error of -2 where it was 1.
+     */
+    private static void notKeptWithAWorstErrorOneGreater() {
+        CHECKS.sentence("It is kept, if .. THE WORST ERROR is not greater than before");
+        Trial m = new Trial();
+        CHECKS.rectangle(m, 10, 20, 30, 23);
+        m.kernel(1, 1);
+        m.cut(48);
+        CHECKS.due("run(20, 3, 1, 6)", m.run(20, 3, 1, 6), 0);
+        CHECKS.due("before", m.worst(0), 1);
+        CHECKS.dueErrors("as before", m, 1, 1, 1, 1);
+        CHECKS.dueMoves("as before", m, 0, 0, 0, 0);
+        m.shift(0, -1);
+        CHECKS.dueErrors("what the round would do", m, 0, -2, 0, -2);
+    }
+
     /** Two rounds take the moved rows back; the third would take the last one. The ends go in by 2. */
     private static void notKeptBehindKeptOnes() {
         CHECKS.sentence("else all MOVES are as before, and the run ends");
@@ -173,6 +193,23 @@ final class TermsRoundTest {
             CHECKS.due("worst(" + round + ")", m.worst(round), worsts[round]);
         }
         CHECKS.due("once more", m.run(20, 1, 1, 6), 0);
+    }
+
+    /** Two thin ones of 22 and 98 pieces: against the error of 1 all of the mask goes. */
+    private static void notKeptWithAllPieces() {
+        CHECKS.sentence("else all MOVES are as before, and the run ends");
+        Trial m = new Trial();
+        CHECKS.rectangle(m, 10, 10, 20, 11);
+        CHECKS.rectangle(m, 0, 30, 48, 31);
+        m.kernel(1, 1);
+        CHECKS.due("cut(1)", m.cut(1), 120);
+        m.shift(3, 1);
+        Trial before = m.again();
+        CHECKS.due("run(20, 1, 4, 6)", m.run(20, 1, 4, 6), 0);
+        for (int piece = 0; piece < 120; piece++) {
+            CHECKS.due("moved(" + piece + ")", m.moved(piece), before.moved(piece));
+            CHECKS.due("error(" + piece + ")", m.error(piece), before.error(piece));
+        }
     }
 
     private static void notKeptWithoutAnotherMove() {
