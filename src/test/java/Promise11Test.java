@@ -70,13 +70,15 @@ final class Promise11Test {
         CHECKS.closed(left, 4, 10, 28, 10, 28, 8, 16, 8, 16, 12, 4, 12);
         left.cut(12);
         CHECKS.due("helper(3, 1)", left.helper(3, 1), 3);
-        dueBars("told from the left", left, Checks.box(5, 6, 27, 7), Checks.box(17, 4, 27, 5), Checks.box(5, 15, 15, 16));
+        dueBars("told from the left", left,
+            Checks.box(5, 6, 27, 7), Checks.box(17, 4, 27, 5), Checks.box(5, 15, 15, 16));
 
         Trial right = new Trial();
         CHECKS.closed(right, 28, 10, 4, 10, 4, 12, 16, 12, 16, 8, 28, 8);
         right.cut(12);
         CHECKS.due("helper(3, 1)", right.helper(3, 1), 3);
-        dueBars("told from the right", right, Checks.box(5, 13, 27, 14), Checks.box(17, 4, 27, 5), Checks.box(5, 15, 15, 16));
+        dueBars("told from the right", right,
+            Checks.box(5, 13, 27, 14), Checks.box(17, 4, 27, 5), Checks.box(5, 15, 15, 16));
     }
 
     private static void dueBars(String when, Trial m, int[] a, int[] b, int[] c) {
@@ -117,7 +119,8 @@ final class Promise11Test {
     }
 
     private static void spacesAndWidths() {
-        CHECKS.sentence("along all of it but one CELL at each end, behind so many rows of CELLS (1 .. 8), so wide (1 .. 4)");
+        CHECKS.sentence("along all of it but one CELL at each end, behind so many rows of CELLS (1 .. 8), "
+            + "so wide (1 .. 4)");
         for (int s = 1; s <= 8; s++) {
             for (int w = 1; w <= 4; w++) {
                 Trial m = square();

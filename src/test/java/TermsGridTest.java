@@ -119,7 +119,9 @@ final class TermsGridTest {
     private static void oddSidesToTheLeft() {
         CHECKS.sentence("by the sides along y to its left: an odd number of them goes by");
         Trial m = CHECKS.crossing();
-        int[][] columnAndSides = {{0, 0}, {3, 0}, {4, 1}, {11, 1}, {12, 2}, {19, 2}, {20, 3}, {27, 3}, {28, 4}, {47, 4}};
+        int[][] columnAndSides = {
+            {0, 0}, {3, 0}, {4, 1}, {11, 1}, {12, 2}, {19, 2}, {20, 3}, {27, 3}, {28, 4}, {47, 4}
+        };
         for (int[] each : columnAndSides) {
             CHECKS.due("column " + each[0], m.is(each[0], 10, 0), each[1] % 2 == 1);
         }

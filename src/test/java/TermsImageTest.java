@@ -9,6 +9,7 @@ final class TermsImageTest {
         cellsBeyondTheGrid();
         atLeastTheThreshold();
         doseInHundredths();
+        greatestOfAll();
         thresholdIsOneAtFirst();
         CHECKS.finish();
     }
@@ -113,6 +114,22 @@ final class TermsImageTest {
         CHECKS.due("at 110, threshold 11", m.edge(0, 110), 0);
         CHECKS.due("none told, threshold 11", m.error(0), -8);
         CHECKS.due("none told, threshold 11", m.is(15, 15, 2), false);
+    }
+
+    /** At the edge of the grid the greatest image is 120 by 91, and one row inward it is 120 by 104. */
+    private static void greatestOfAll() {
+        CHECKS.sentence("if THE IMAGE by the dose is at least 100 by THE THRESHOLD");
+        Trial m = new Trial();
+        CHECKS.rectangle(m, 0, 0, 48, 48);
+        for (int i = 0; i < 6; i++) {
+            m.kernel(20, 6);
+        }
+        m.cut(48);
+        m.run(1, 100_000, 1, 1);
+        m.cut(48);
+        CHECKS.due("10920 by 916, threshold 100000", m.edge(0, 916), 0);
+        CHECKS.due("10920 by 915, threshold 100000", m.edge(0, 915), -1);
+        CHECKS.due("10920 by 1000, threshold 100000", m.edge(0, 1000), 0);
     }
 
     private static void thresholdIsOneAtFirst() {
