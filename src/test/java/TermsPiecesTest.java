@@ -37,6 +37,7 @@ final class TermsPiecesTest {
         CHECKS.due("moved(119)", m.moved(119), 1);
         CHECKS.due("moved(120)", m.moved(120), 0);
         CHECKS.due("a round of all of them", m.run(20, 1, 1, 6), 1);
+        CHECKS.due("bars beside their sides", m.helper(1, 1), 2);
         CHECKS.due("119 pieces", stepAndSquare(34).cut(2), 119);
         Trial more = stepAndSquare(36);
         CHECKS.due("cut(10)", more.cut(10), 29);
